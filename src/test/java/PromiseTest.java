@@ -176,6 +176,11 @@ public final class PromiseTest {
         due(1, () -> x.lots());
         due(4, () -> x.hoursToDry(0));
         due(99, () -> x.empty(0));
+        MouldDesk z = running(4, 0);
+        z.empty(0);
+        z.fill(0, 49);
+        due(4, () -> z.pass(1));
+        due(1, () -> z.empty(0));
         MouldDesk y = running(12, 0);
         y.empty(0);
         y.fill(0, 48);
@@ -671,6 +676,7 @@ public final class PromiseTest {
         x.pass(1);
         // 5 percent of 48 g are 2 g, rounded down; the last shot is full too.
         due(6, () -> x.regrindIn(1));
+        due(6, () -> x.regrindByShots(1));
         due(40, () -> x.regrindIn(0));
     }
 
@@ -863,6 +869,21 @@ public final class PromiseTest {
         due(ARITHMETIC, () -> y.meanParts());
     }
 
+    private static void theLeastShot() {
+        MouldDesk x = new MouldDesk();
+        x.addResin(0);
+        x.addMachine(1);
+        x.addMould(1, 1, 0, 1, 60);
+        x.mount(0, 0);
+        x.order(0, 0, 1, 50);
+        x.run(0, 0);
+        x.fill(0, 1);
+        due(1, () -> x.pass(1));
+        due(0, () -> x.greatestShare(0));
+        due("0.0", () -> x.regrindShare());
+        due("1.0", () -> x.meanParts());
+    }
+
     private static void test(String name, Runnable body) {
         promise = name;
         try {
@@ -913,6 +934,7 @@ public final class PromiseTest {
         test("promise 26", PromiseTest::regrindShare);
         test("promise 26, many grams", PromiseTest::regrindShareOfManyGrams);
         test("promise 27", PromiseTest::meanParts);
+        test("promises 23, 26 and 27, one shot of a gram", PromiseTest::theLeastShot);
         System.out.println(wrong == 0 ? "all answers are as due" : wrong + " answers are not as due");
         if (wrong != 0) {
             System.exit(1);
