@@ -828,7 +828,6 @@ public final class PromiseTest {
         due(ARITHMETIC, () -> z.regrindShare());
     }
 
-    /** More grams than a float holds exactly: each sum is converted before they are divided. */
     private static void regrindShareOfManyGrams() {
         MouldDesk x = new MouldDesk();
         x.addResin(0);
